@@ -274,7 +274,6 @@ public final class PackageForge {
 
     public int locked(int number, int version, int other)
             throws IndexOutOfBoundsException, NoSuchElementException {
-        checkPackage(number);
         checkPackage(other);
         return releaseAt(number, version).lock.versionOf(other);
     }

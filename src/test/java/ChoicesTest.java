@@ -5,6 +5,7 @@ final class ChoicesTest {
         notReached(expect);
         greatestPackageFirst(expect);
         backtracking(expect);
+        triedAndLeft(expect);
         needsOfChosenReleases(expect);
         notReachedCountsLess(expect);
         allNeedsCount(expect);
@@ -68,6 +69,28 @@ final class ChoicesTest {
         forge.need(2, 0, 101, 199);
         both(expect, "none is left", UnsupportedOperationException.class, forge, 2, 0);
         both(expect, "none is left", UnsupportedOperationException.class, forge, 2, 1);
+    }
+
+    /** 3 at 101 reaches 2, whose need of 0 cannot be met; 3 at 100 does not reach it. */
+    private static void triedAndLeft(Expect expect) {
+        PackageForge forge = Forges.withThreeReleases(5);
+        Forges.release(forge, 1);
+        forge.need(2, 0, 200, 200);
+        forge.need(2, 1, 100, 100);
+        Forges.release(forge, 2);
+        Forges.release(forge, 3);
+        forge.need(3, 2, 100, 999);
+        Forges.release(forge, 3);
+        forge.need(4, 3, 100, 999);
+        forge.need(4, 0, 100, 199);
+        both(expect, "the older one", 100, forge, 4, 3);
+        both(expect, "what was tried is left out again", 0, forge, 4, 2);
+        both(expect, "and what it needed", 0, forge, 4, 1);
+        both(expect, "the greatest one for the source", 101, forge, 4, 0);
+        forge.need(4, 0, 200, 200);
+        both(expect, "the greater one, once 0 fits", 101, forge, 4, 3);
+        both(expect, "reached then", 100, forge, 4, 2);
+        both(expect, "reached over it", 100, forge, 4, 1);
     }
 
     private static void needsOfChosenReleases(Expect expect) {

@@ -17,13 +17,21 @@ final class Expect {
         return failed;
     }
 
-    /** The call's answer, or the class of what it throws. */
+    /** The call's answer, or the class of what it throws with a throw of its own. */
     static Object outcome(Call call) {
         try {
             return call.go();
         } catch (RuntimeException e) {
-            return e.getClass();
+            return isThrownByProgram(e) ? e.getClass() : "by the machine or the library: " + e;
         }
+    }
+
+    private static boolean isThrownByProgram(RuntimeException e) {
+        StackTraceElement[] trace = e.getStackTrace();
+        boolean isFromProgram = trace.length > 0
+                && trace[0].getClassName().matches("(PackageForge|PlainModel)([$].*)?");
+        // The machine's own messages name an index or a value; written ones have no digits.
+        return isFromProgram && (e.getMessage() == null || !e.getMessage().matches(".*[0-9/].*"));
     }
 
     void equal(String what, Object due, Call call) {

@@ -4,7 +4,7 @@ import java.util.Random;
 final class ModelTest {
     private static final int RUNS = 400;
     private static final int CALLS = 512;
-    private static final int MOST_CALLS_A_STEP = 4;
+    private static final int MOST_CALLS_A_STEP = 7;
 
     private final Expect expect;
     private final Random random;
@@ -30,14 +30,35 @@ final class ModelTest {
     }
 
     private void go() {
-        int first = random.nextInt(packages + 1);
+        addFirstPackages();
+        boolean isDense = random.nextBoolean();
+        while (calls < CALLS - MOST_CALLS_A_STEP) {
+            if (isDense && calls < 200) {
+                releaseWithNeeds();
+            } else {
+                step();
+            }
+        }
+    }
+
+    private void addFirstPackages() {
+        int first = random.nextInt(4) == 0 ? random.nextInt(packages + 1) : packages;
         for (int i = 0; i < first; i++) {
             int owner = random.nextInt(3);
             same("addPackage " + owner, () -> forge.addPackage(owner), () -> model.addPackage(owner));
         }
-        while (calls < CALLS - MOST_CALLS_A_STEP) {
-            step();
+    }
+
+    /** Releases with ever new needs at first, so that most choices have much to weigh. */
+    private void releaseWithNeeds() {
+        int number = random.nextInt(packages);
+        for (int i = random.nextInt(4); i > 0 && number > 0; i--) {
+            changeNeed(number, random.nextInt(number));
         }
+        if (random.nextBoolean()) {
+            source(number);
+        }
+        release(number);
     }
 
     private void same(String call, Expect.Call got, Expect.Call due) {
@@ -48,7 +69,7 @@ final class ModelTest {
     private void step() {
         switch (random.nextInt(20)) {
             case 0, 1 -> build();
-            case 2, 3 -> source();
+            case 2, 3 -> source(number());
             case 4, 5 -> needs();
             case 6, 7 -> release(number());
             case 8, 9, 10, 11, 12 -> choice();
@@ -84,8 +105,7 @@ final class ModelTest {
         }
     }
 
-    private void source() {
-        int number = number();
+    private void source(int number) {
         int face = random.nextInt(30) == 0 ? random.nextInt(1004) - 2 : random.nextInt(faces);
         int body = random.nextInt(30) == 0 ? random.nextInt(1004) - 2 : random.nextInt(3);
         same("setSource " + number + " " + face + " " + body, () -> forge.setSource(number, face, body),
@@ -94,13 +114,16 @@ final class ModelTest {
 
     private void needs() {
         int number = number();
-        int other = number <= 0 || random.nextInt(10) == 0 ? number() : random.nextInt(number);
+        changeNeed(number, number <= 0 || random.nextInt(10) == 0 ? number() : random.nextInt(number));
+    }
+
+    private void changeNeed(int number, int other) {
         if (random.nextInt(4) == 0) {
             same("dropNeed " + number + " " + other, () -> forge.dropNeed(number, other),
                     () -> model.dropNeed(number, other));
         } else {
-            int least = random.nextInt(3) == 0 ? version() : 100;
-            int greatest = random.nextInt(3) != 0 ? 999 : least + random.nextInt(200) - random.nextInt(9);
+            int least = random.nextInt(2) == 0 ? version() : 100;
+            int greatest = random.nextInt(2) == 0 ? 999 : least + random.nextInt(200) - random.nextInt(9);
             same("need " + number + " " + other + " " + least + " " + greatest,
                     () -> forge.need(number, other, least, greatest),
                     () -> model.need(number, other, least, greatest));
