@@ -12,6 +12,7 @@ public final class AllTests {
         YankingTest.run(expect);
         FiguresTest.run(expect);
         RefusalTest.run(expect);
+        BoundsTest.run(expect);
         ModelTest.run(expect);
         RoomTest.run(expect);
         System.out.println(expect.passed() + " answers as due, " + expect.failed() + " not");

@@ -2,8 +2,6 @@ import java.lang.reflect.Constructor;
 import java.lang.reflect.Field;
 import java.lang.reflect.Method;
 import java.lang.reflect.Modifier;
-import java.nio.file.Files;
-import java.nio.file.Path;
 import java.util.ArrayList;
 import java.util.List;
 import java.util.Set;
@@ -55,7 +53,7 @@ final class FaceTest {
     private static Set<String> documented() {
         Set<String> set = new TreeSet<>();
         boolean isInFace = false;
-        for (String line : documentLines()) {
+        for (String line : Document.lines()) {
             if (line.equals("public final class PackageForge {")) {
                 isInFace = true;
             } else if (line.equals("}")) {
@@ -66,14 +64,6 @@ final class FaceTest {
             }
         }
         return set;
-    }
-
-    private static List<String> documentLines() {
-        try {
-            return Files.readAllLines(Path.of("../shared/DOC.md"));
-        } catch (java.io.IOException e) {
-            throw new IllegalStateException(e);
-        }
     }
 
     private static List<String> strayMembers(Class<?> type) {
