@@ -193,8 +193,8 @@ final class ChoiceBoundsTest {
     private void lastWayThatIsTried() {
         bounds.sentence("Promise 6", "Returns the version of another package in the choice for a source, found by a"
                 + " search from the greatest package down.");
-        bounds.alsoSentence("Promise 7", "Returns the same version, found by going through all ways to take a release of"
-                + " each package, or none.");
+        bounds.alsoSentence("Promise 7", "Returns the same version, found by going through all ways to take a release"
+                + " of each package, or none.");
         forge = Forges.withPackages(6);
         for (int version = 100; version < 104; version++) {
             Forges.release(forge, 0);

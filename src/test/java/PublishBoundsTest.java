@@ -158,9 +158,9 @@ final class PublishBoundsTest {
     }
 
     private void nextVersions() {
-        bounds.sentence("Terms", "The next one has the version 1 greater than the last one, or, if the interface differs"
-                + " from that of the last one, or 1 greater would be a multiple of 100, the next greater multiple of"
-                + " 100.");
+        bounds.sentence("Terms", "The next one has the version 1 greater than the last one, or, if the interface"
+                + " differs from that of the last one, or 1 greater would be a multiple of 100, the next greater"
+                + " multiple of 100.");
         bounds.alsoSentence("Promise 21", "Publishes the source of a package.", "Returns the version.");
         forge = Forges.withPackages(1);
         int[][] rows = {{0, 0, 100}, {0, 0, 101}, {0, 999, 102}, {1, 999, 200}, {0, 999, 300}, {0, 0, 301},
