@@ -60,7 +60,7 @@ final class Probe {
 
     private void releases(int number) {
         for (int hundred = 100; hundred < 1000; hundred += 100) {
-            for (int v = hundred; isThere(number, v); v++) {
+            for (int v = hundred; v < hundred + 20 && isThere(number, v); v++) {
                 int version = v;
                 ask("isStale", () -> forge.isStale(number, version));
                 for (int o = 0; o < number; o++) {
