@@ -15,6 +15,7 @@ public final class AllTests {
         BoundsTest.run(expect);
         ModelTest.run(expect);
         RoomTest.run(expect);
+        ReadmeTest.run(expect);
         System.out.println(expect.passed() + " answers as due, " + expect.failed() + " not");
         if (expect.failed() != 0 || expect.passed() == 0) {
             System.exit(1);
